@@ -381,7 +381,7 @@ public final class CoverWays {
     // The library's doubleToLongBits is out of bounds here. For a share, 0 to 1, each product and
     // difference below is exact, so that the bits are the same.
     private static long bitsOf(double share) {
-        if (!(share > 0.0)) {
+        if (share <= 0.0) {
             return 0L;
         }
         double scaled = share;
@@ -475,6 +475,7 @@ public final class CoverWays {
 
     private int takeAll(State state) {
         int made = 0;
+        // One more than can be made, so that the refused one is counted.
         while (made <= MOST_NOTED && takeHeaviest(state) > 0) {
             made++;
         }

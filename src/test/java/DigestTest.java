@@ -86,7 +86,18 @@ public final class DigestTest {
         Due.type(x, "#".repeat(60));
         Due.equal("digest() with sixty signs", x.digest(), digestOf(x, true, true, "#".repeat(60)));
         Due.changesNothing(x, "digest()", () -> x.digest());
-        // The bits of many shares.
+        shares();
+    }
+
+    /** The bits of many shares. */
+    private static void shares() {
+        for (String graph : new String[] {"c0=0;c1=0", "c0=1;c1=1", "c0=1;c1=3", "c0=1;c1=7", "c0=1;c1=999",
+            "c0=7;c1=0", "c0=0;c1=7", "c0=1;c1=999;c2=999;c3=999;c4=999"}) {
+            CoverWays z = Due.loaded("s0;e0;" + graph);
+            z.step();
+            z.keep(0);
+            Due.equal("digest() of " + graph, z.digest(), digestOf(z, true, false, ""));
+        }
         for (int cover = 1; cover < 1000; cover += 7) {
             CoverWays y = Due.loaded("s0;e0;j01;s1;e1;c0=" + cover + ";c1=" + (1000 - cover));
             y.step();

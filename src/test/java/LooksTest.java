@@ -129,6 +129,21 @@ public final class LooksTest {
         ways("j01;j12;s0;s1;e1;e2;x02", 4, 3);
         ways("j01;j12;s0;s1;e1;e2;x01", 4, 2);
         ways("s0;e0;s4;e4;x04", 2, 2);
+        // Ways that are gone do not count any longer.
+        CoverWays x = Due.loaded("j01;j02;j12;j18;j28;s0;e8");
+        Due.equal("pieceOf(2, 6)", x.pieceOf(2, 6), 2);
+        Due.equal("mainPiece()", x.mainPiece(), 0);
+        x.mark(0, 0);
+        Due.equal("pieceOf(2, 6) without starts", x.pieceOf(2, 6), 0);
+        Due.equal("mainPiece() without starts", x.mainPiece(), -1);
+        x.mark(1, 1);
+        Due.equal("pieceOf(2, 6) from 1", x.pieceOf(2, 6), 1);
+        Due.equal("pieceOf(1, 6) from 1", x.pieceOf(1, 6), 2);
+        Due.equal("mainPiece() from 1", x.mainPiece(), 1);
+        x.bar(1, 2);
+        Due.equal("count(6) with a bar", x.count(6), 1);
+        x.bar(1, 2);
+        Due.equal("count(6) without it", x.count(6), 2);
     }
 
     private static void rows(String graph, int due) {

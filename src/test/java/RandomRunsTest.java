@@ -19,15 +19,40 @@ public final class RandomRunsTest {
     public static void main(String[] args) {
         for (int run = 0; run < RUNS; run++) {
             RandomRunsTest test = new RandomRunsTest(run);
-            for (int i = 0; i < CALLS; i++) {
+            int first = test.fill(run % 4);
+            for (int i = first; i < CALLS; i++) {
                 test.callBoth(run);
             }
         }
         Due.close("RandomRunsTest");
     }
 
+    /** Makes a graph with more or less joins, covers and marks; tells how many calls that took. */
+    private int fill(int density) {
+        int calls = 0;
+        for (int from = 0; from < 9; from++) {
+            int cover = random.nextInt(1000);
+            x.cover(from, cover);
+            model.cover(from, cover);
+            int what = random.nextInt(2 + density % 3);
+            x.mark(from, what);
+            model.mark(from, what);
+            calls += 2;
+            for (int to = from + 1; to < 9; to++) {
+                if (random.nextInt(4) < density) {
+                    x.join(from, to);
+                    model.join(from, to);
+                    calls++;
+                }
+            }
+        }
+        return calls;
+    }
+
     private void callBoth(int run) {
+        // Less often what changes the graph, so that more is split in the same one.
         int which = random.nextInt(31);
+        which = which < 7 && random.nextInt(3) > 0 ? 7 + which % 2 : which;
         int one = number();
         int other = number();
         String got = answer(which, one, other, false);

@@ -4,6 +4,7 @@ public final class SnapshotTest {
         keep();
         goBack();
         snapshotHasAllButTheBuffer();
+        waysNotedComeBack();
         undo();
         undoKeepsSixStates();
         undoableCalls();
@@ -77,6 +78,25 @@ public final class SnapshotTest {
         Due.equal("count(9)", x.count(9), 2);
         x.goBack(0);
         Due.equal("goBack(0): undo() leaves the slots", x.count(9), 1);
+    }
+
+    /** The ways noted come back where other ones have been noted since. */
+    private static void waysNotedComeBack() {
+        CoverWays x = Due.loaded("c0=9;c1=3;c8=4;c2=8;j08;j01;j18;s0;e8");
+        x.split();
+        x.keep(0);
+        x.cover(8, 1);
+        x.join(0, 8);
+        x.split();
+        Due.equal("noted(0, 1)", x.noted(0, 1), Due.mask(0, 1, 8));
+        x.goBack(0);
+        Due.equal("noted(0, 0) behind goBack(0)", x.noted(0, 0), 4);
+        Due.equal("noted(0, 1) behind goBack(0)", x.noted(0, 1), Due.mask(0, 8));
+        Due.equal("noted(0, 2) behind goBack(0)", x.noted(0, 2), 2);
+        x.undo();
+        Due.equal("noted(0, 0) behind undo()", x.noted(0, 0), 1);
+        Due.equal("noted(0, 1) behind undo()", x.noted(0, 1), Due.mask(0, 1, 8));
+        Due.equal("ifSplit()", x.ifSplit(), 18);
     }
 
     private static void undo() {

@@ -159,9 +159,14 @@ public final class TextTest {
         Due.type(x, "x02;x02;c5=0");
         Due.equal("load()", x.load(), 0);
         Due.equal("pieceOf(2, 7): a bar told twice", x.pieceOf(2, 7), 1);
+        Due.equal("pieceOf(0, 7)", x.pieceOf(0, 7), 1 << 2);
         Due.equal("undo()", x.undo(), 1);
         Due.equal("count(0) behind undo()", x.count(0), 2);
         Due.equal("clearBuffer(): undo() leaves the buffer", x.clearBuffer(), 0);
+        CoverWays y = Due.loaded("s0;s0;e4;e4;x02;x12;x23");
+        Due.equal("pieceOf(0, 2): a start told twice", y.pieceOf(0, 2), 1);
+        Due.equal("pieceOf(4, 2): an end told twice", y.pieceOf(4, 2), 2);
+        Due.equal("pieceOf(2, 7): bars from both sides", y.pieceOf(2, 7), 0b1011);
     }
 
     private static void loadTakesAllInPlace() {

@@ -99,6 +99,11 @@ public final class WouldBeTest {
         Due.share("explained() without cover", x.explained(), 1.0);
         x.cover(3, 7);
         Due.share("explained() of nothing", x.explained(), 0.0);
+        x.cover(3, 1);
+        Due.share("explained() of nothing of 1", x.explained(), 0.0);
+        x.mark(3, 3);
+        x.split();
+        Due.share("explained() of all of 1", x.explained(), 1.0);
         CoverWays y = Due.loaded("c0=10;c1=3;c2=6;c8=9;j01;j02;j18;j28;s0;e8");
         y.step();
         Due.share("explained() behind a step", y.explained(), 18 / 28.0);
