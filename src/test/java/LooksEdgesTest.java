@@ -15,6 +15,7 @@ public final class LooksEdgesTest {
         notedRefuses();
         sums();
         ways();
+        waysOfTheGraphNow();
         rows();
         counted();
         countRefuses();
@@ -290,6 +291,66 @@ public final class LooksEdgesTest {
                 counts("j01;j12;s0;s1;s2;e0;e1;e2", what, 6);
                 counts("j01;j02;j12;s0;s1;s2;e0;e1;e2", what, 7);
             }
+        });
+    }
+
+    private static void waysNow(String call, CoverWays x, int all, int open, int first, int main) {
+        Due.equal("count(4) behind " + call, x.count(4), all);
+        Due.equal("count(5) behind " + call, x.count(5), all);
+        Due.equal("count(6) behind " + call, x.count(6), open);
+        Due.equal("openWay(0) behind " + call, x.openWay(0), first);
+        Due.equal("mainPiece() behind " + call, x.mainPiece(), main);
+        Due.equal("heaviest(1) behind " + call, x.heaviest(1), first);
+        Due.equal("pieceOf(8, 6) behind " + call, x.pieceOf(8, 6), all);
+    }
+
+    private static void waysOfTheGraphNow() {
+        Due.test("Promise 19: 4 to 6: the ways of the graph as it is behind each call that changes it", () -> {
+            CoverWays x = Due.loaded("j01;j18;j28;s0;e8");
+            waysNow("load()", x, 1, 1, Due.mask(0, 1, 8), 0);
+            x.join(0, 2);
+            waysNow("join(0, 2)", x, 2, 2, Due.mask(0, 1, 8), 0);
+            x.join(0, 1);
+            waysNow("join(0, 1), which takes it away,", x, 1, 1, Due.mask(0, 2, 8), 0);
+            x.keep(0);
+            x.mark(1, 1);
+            waysNow("mark(1, 1)", x, 2, 2, Due.mask(0, 2, 8), 8);
+            x.bar(2, 8);
+            waysNow("bar(2, 8)", x, 2, 1, Due.mask(1, 8), 1);
+            x.bar(1, 8);
+            waysNow("bar(1, 8)", x, 2, 0, -1, -1);
+            x.undo();
+            waysNow("undo() of bar(1, 8)", x, 2, 1, Due.mask(1, 8), 1);
+            x.goBack(0);
+            waysNow("goBack(0)", x, 1, 1, Due.mask(0, 2, 8), 0);
+            x.mark(8, 0);
+            waysNow("mark(8, 0)", x, 0, 0, -1, -1);
+            x.undo();
+            x.undo();
+            waysNow("undo() of goBack(0)", x, 2, 1, Due.mask(1, 8), 1);
+            Due.type(x, "j08;s0;e8");
+            x.load();
+            waysNow("load() of another graph", x, 1, 1, Due.mask(0, 8), 0);
+        });
+        Due.test("Promise 19: 7 and 8: the rows of the graph as it is behind each call that changes it", () -> {
+            CoverWays x = new CoverWays();
+            x.keep(0);
+            for (int piece = 0; piece < 8; piece++) {
+                x.join(piece, piece + 1);
+                Due.equal("count(7) behind join " + piece, x.count(7), 8 - piece);
+                Due.equal("count(8) behind join " + piece, x.count(8), 8 - piece);
+                Due.equal("pieceOf(0, 5) behind join " + piece, x.pieceOf(0, 5), piece + 1);
+            }
+            x.join(4, 5);
+            Due.equal("count(7) with the row cut", x.count(7), 2);
+            Due.equal("count(8) with the row cut", x.count(8), 2);
+            Due.equal("pieceOf(0, 5) with the row cut", x.pieceOf(0, 5), 4);
+            x.goBack(0);
+            Due.equal("count(7) behind goBack(0)", x.count(7), 9);
+            Due.equal("count(8) behind goBack(0)", x.count(8), 9);
+            x.undo();
+            Due.equal("count(7) behind undo()", x.count(7), 2);
+            Due.equal("count(8) behind undo()", x.count(8), 2);
         });
     }
 

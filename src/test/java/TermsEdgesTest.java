@@ -279,6 +279,14 @@ public final class TermsEdgesTest {
                 isAnew(x -> x.join(5, 6), 0));
         Due.test("Splitting: what changes the graph begins anew (bar of pieces without ways)", () ->
                 isAnew(x -> x.bar(5, 6), 0));
+        Due.test("Splitting: what begins it anew leaves what is counted so far", () -> {
+            isCounted("cover", x -> x.cover(1, 5));
+            isCounted("join", x -> x.join(3, 4));
+            isCounted("mark", x -> x.mark(3, 3));
+            isCounted("bar", x -> x.bar(3, 4));
+            isCounted("begin", x -> x.begin());
+            isCounted("load", x -> x.load());
+        });
         Due.test("Splitting: a refused call does not begin anew", () -> {
             CoverWays x = Made.stepped();
             Due.outOfBounds(x, "cover(9, 0)", () -> x.cover(9, 0));
@@ -301,6 +309,16 @@ public final class TermsEdgesTest {
         Due.equal("count(2)", x.count(2), 28);
         Due.equal("pieceOf(2, 1)", x.pieceOf(2, 1), 6);
         Due.equal("step()", x.step(), 6);
+    }
+
+    private static void isCounted(String name, Due.CallOn call) {
+        CoverWays x = Made.loaded();
+        x.split();
+        Due.type(x, "s0");
+        call.answer(x);
+        Due.equal("count(9) behind " + name, x.count(9), 2);
+        Due.equal("count(10) behind " + name, x.count(10), 1);
+        Due.equal("count(3) behind " + name, x.count(3), 0);
     }
 
     private static void heaviest(String graph, int weight, int mask) {
