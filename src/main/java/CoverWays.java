@@ -133,7 +133,7 @@ public final class CoverWays {
         if (code < LEAST_CODE || code > GREATEST_CODE) {
             throw new IllegalArgumentException("a code is 33 to 126");
         }
-        if (text.length >= MOST_CHARS) {
+        if (text.length < 0 || text.length >= MOST_CHARS) {
             throw new IllegalStateException("the buffer is full");
         }
         text.codes[text.length] = code;
@@ -423,7 +423,7 @@ public final class CoverWays {
     }
 
     private void saveState() {
-        if (savedStates >= MOST_SAVED) {
+        if (savedStates < 0 || savedStates >= MOST_SAVED) {
             dropOldest();
         }
         copyState(now, saved[savedStates]);
@@ -624,7 +624,7 @@ public final class CoverWays {
             }
             int mask = ahead | 1 << piece;
             // A way is noted ahead of those that it begins.
-            if ((ways.listed.marks[piece] & END) != 0 && ways.allWays < SETS) {
+            if ((ways.listed.marks[piece] & END) != 0 && ways.allWays >= 0 && ways.allWays < SETS) {
                 ways.all[ways.allWays] = mask;
                 ways.allWays++;
             }
@@ -749,6 +749,7 @@ public final class CoverWays {
         private int place;
         private int kind;
         private int first;
+        private int number;
 
         /** Reads the graph; returns the index of the first syntax error, or the length. */
         int read() {
@@ -778,10 +779,10 @@ public final class CoverWays {
                     return takeSecond(code - '0');
                 case AT_EQUALS:
                     place = AT_COVER;
+                    number = 0;
                     return code == '=';
                 case AT_COVER:
                     place = IN_COVER;
-                    graph.covers[first] = 0;
                     return takeDigit(code - '0');
                 case IN_COVER:
                     return code == ';' ? takeSeparator(code) : canGrow() && takeDigit(code - '0');
@@ -806,7 +807,7 @@ public final class CoverWays {
         }
 
         private boolean takeSecond(int piece) {
-            if (!isPiece(piece) || piece <= first) {
+            if (!isPiece(first) || !isPiece(piece) || piece <= first) {
                 return false;
             }
             if (kind == 'j') {
@@ -821,15 +822,15 @@ public final class CoverWays {
 
         // A cover has no leading zeros, and at most three digits.
         private boolean canGrow() {
-            int cover = graph.covers[first];
-            return cover > 0 && cover <= MOST_COVER / 10;
+            return number > 0 && number <= MOST_COVER / 10;
         }
 
         private boolean takeDigit(int digit) {
-            if (digit < 0 || digit > 9) {
+            if (digit < 0 || digit > 9 || !isPiece(first)) {
                 return false;
             }
-            graph.covers[first] = graph.covers[first] * 10 + digit;
+            number = number * 10 + digit;
+            graph.covers[first] = number;
             return true;
         }
 
